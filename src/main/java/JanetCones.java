@@ -41,6 +41,8 @@ public final class JanetCones {
     private static final int[] LETTER_PRODUCTS = {1024, 32, 1};
     private static final int[] LETTER_SHIFTS = {10, 5, 0};
 
+    private static final int LEAST_INT = -2147483648;
+
     private static final int SHEETS = 4;
     private static final int FORMS = 3;
     private static final int MOST_ITEMS = 60;
@@ -245,11 +247,11 @@ public final class JanetCones {
     }
 
     public int get(int s, int form, int i) {
-        if (!isBelow(s, SHEETS) || !isBelow(form, FORMS)) return Integer.MIN_VALUE;
+        if (!isBelow(s, SHEETS) || !isBelow(form, FORMS)) return LEAST_INT;
         int found = itemFinding(sheets[s], form, i);
         if (found != 0) {
             finding(found);
-            return Integer.MIN_VALUE;
+            return LEAST_INT;
         }
         return sheets[s].items[i];
     }
