@@ -518,7 +518,6 @@ public final class JanetCones {
             negative = isNegative;
             number = 1;
             product = 0;
-            letter = 0;
         }
 
         private int signedNumber() {

@@ -139,7 +139,14 @@ public final class BasisTest {
         }
     }
 
-    private static void none(JanetCones x, int why, int steps) {
+    private static void none(int why, int steps, String order, String... generators) {
+        JanetCones x = Check.with(order, "", generators);
+        Model m = new Model();
+        m.texts[7] = order;
+        for (int g = 0; g < generators.length; g++) m.texts[g] = generators[g];
+        m.complete(m.order(), -1);
+        Check.due("why of the Model", m.why, why);
+        Check.due("steps of the Model", m.steps, steps);
         Check.due("why", x.why(0), why);
         Check.due("steps", x.why(1), steps);
         Check.due("none is told of it", x.why(2), 0);
@@ -159,12 +166,16 @@ public final class BasisTest {
     }
 
     private static void noBasis() {
-        none(Check.with("deg", "", "-yyy", "y2x2+y-9z3z3", "-8+2zy3z2-8y3-1x2z"), 1, 120);
-        none(Check.with("deg", "", "-z4z6z4", "zx3y2-9"), 1, 120);
-        none(Check.with("lex", "", "-x3-y2z2", "4x4y4z4-8"), 2, 7);
-        none(Check.with("lex", "", "-z+1xzz-1zzy+9", "xz+5zxx+6zz+zz"), 2, 6);
-        none(Check.with("rev", "", "y2+z3", "z4y3z3", "8-1x3"), 3, 41);
-        none(Check.with("deg", "", "x9x6", "y9y6", "z9z6"), 3, 33);
+        none(1, 120, "deg", "-yyy", "y2x2+y-9z3z3", "-8+2zy3z2-8y3-1x2z");
+        none(1, 120, "deg", "-z4z6z4", "zx3y2-9");
+        none(2, 7, "lex", "-x3-y2z2", "4x4y4z4-8");
+        none(2, 6, "lex", "-z+1xzz-1zzy+9", "xz+5zxx+6zz+zz");
+        // WIDE when multiplied by a letter that is not GOOD
+        none(2, 24, "lex", "x5x4x6+9xy7", "5y5x5y7-z6x");
+        none(2, 11, "lex", "7xx7-z2y5x7-z4", "z6z5y3-9z4z4x6");
+        none(2, 6, "lex", "y5z7y+z5+x5", "3x7+z5zy3", "x6zy6+z4y5+x4");
+        none(3, 41, "rev", "y2+z3", "z4y3z3", "8-1x3");
+        none(3, 33, "deg", "x9x6", "y9y6", "z9z6");
     }
 
     private static void edges() {
@@ -172,10 +183,8 @@ public final class BasisTest {
         JanetCones x = Check.with("lex", "", "x-y2z", "y-z9z");
         basis(x, 3, "y+30z10", "x+30z21");
         // of z32, which is WIDE
-        x = Check.with("lex", "", "x-y2z2", "y-z9z");
-        none(x, 2, 3);
-        x = Check.with("lex", "", "x-y9y6", "y-z9z6");
-        none(x, 2, 2);
+        none(2, 3, "lex", "x-y2z2", "y-z9z");
+        none(2, 2, "lex", "x-y9y6", "y-z9z6");
         // y turns up with x by 0 to 14, and x by 15 is one more
         x = Check.with("deg", "", "y", "x9x6");
         Check.due("why 16", x.why(0), 0);
@@ -185,10 +194,13 @@ public final class BasisTest {
         Check.due("why 24", x.why(0), 0);
         Check.due("how many 24", x.why(2), 24);
         Check.yes("the last one is there", x.size(23) == 1 && x.good(23) >= 0);
-        none(Check.with("deg", "", "x3", "y7", "z"), 3, 44);
-        // THE PILE would have more than 100
-        none(Check.with("rev", "", "y4+3z2+yy2", "y2+7y3-z4zy2+z4-z", "z4-y4-y2z2x2+1x3", "z2y4-z2-x4z2",
-                "2x3y2-6y2+y4"), 3, 63);
+        none(3, 44, "deg", "x3", "y7", "z");
+        // THE PILE has just 100 (it is LONG then), and would have more than 100
+        none(1, 120, "deg", "8y6z5+z+8y2x3z2", "1y7y3", "z7z5y4", "4z7y5y7-x7");
+        none(1, 120, "rev", "8x3y-x2", "y2-6y3+z4z4", "yy4y-z4", "x4y-9y2y4y+1x4y3z2+x4-z2");
+        none(1, 120, "deg", "x2x2-3z3z3z+y3-z2", "4x3y2", "5y3z-zx2z3-yz", "1z3+y3-xx3");
+        none(3, 63, "rev", "y4+3z2+yy2", "y2+7y3-z4zy2+z4-z", "z4-y4-y2z2x2+1x3", "z2y4-z2-x4z2",
+                "2x3y2-6y2+y4");
     }
 
     private static void orderMatters() {

@@ -5,6 +5,7 @@ import java.util.List;
 public final class CountTest {
     public static void main(String[] args) {
         counts();
+        firstAsked();
         String[][] sets = {{}, {"x"}, {"5"}, {"x2-yz", "xy-2z2+1"}, {"x2y", "xy3", "z4"}, {"x-1", "x+y", "2x+y-1", "z2-z"},
             {"-x3-y2z2", "4x4y4z4-8"}, {"x9x6", "y9y6", "z9z6"}, {"x3y-z2x+2", "y2z2-5x2", "xyz-z+7"}, {"x+", "y-y", "z1"}};
         for (String[] set : sets) {
@@ -43,6 +44,59 @@ public final class CountTest {
         int[] none = {32, 2, 3, 2, 7, 0, 0, -1, 1};
         for (int w = 0; w < 9; w++) Check.due("count " + w + " without a BASIS", x.count(w), none[w]);
         findings();
+    }
+
+    /** Each call tells of the texts as they are now, though it is the first after a change. */
+    private static void firstAsked() {
+        for (int call = 0; call < 24; call++) {
+            JanetCones x = Check.with("lex", "x3y2", "x2-y", "xy-3z");
+            x.digest();
+            Check.text(x, 0, "y3-2z");
+            Check.text(x, 6, "5y4+z");
+            Check.text(x, 7, "rev");
+            JanetCones due = Check.with("rev", "5y4+z", "y3-2z", "xy-3z");
+            due.digest();
+            Check.due("first asked " + call, ask(x, call), ask(due, call));
+            x.wipe(0);
+            due = Check.with("rev", "5y4+z", "", "xy-3z");
+            due.digest();
+            Check.due("first asked when wiped " + call, ask(x, call), ask(due, call));
+            x.undo(1);
+            x.undo(6);
+            due = Check.with("rev", "5y4+", "", "xy-3");
+            due.digest();
+            Check.due("first asked when undone " + call, ask(x, call), ask(due, call));
+            Check.due("new object asked " + call, ask(new JanetCones(), call), ask(Check.with("", ""), call));
+        }
+    }
+
+    private static long ask(JanetCones x, int call) {
+        switch (call) {
+            case 0: return x.fault(0);
+            case 1: return x.order();
+            case 2: return x.ahead(64, 1025);
+            case 3: return x.term(0, 0, 1);
+            case 4: return x.why(1);
+            case 5: return x.basis(0, 0, 1);
+            case 6: return x.size(0);
+            case 7: return x.good(0);
+            case 8: return x.cone(96);
+            case 9: return x.outside(5);
+            case 10: return x.within(5);
+            case 11: return x.form(0, 1);
+            case 12: return x.made();
+            case 13: return x.spare();
+            case 14: return x.by(0, 1);
+            case 15: return x.shown(0, -1);
+            case 16: return x.shown(-1, -1);
+            case 17: return x.sheet(0, 0, 9) + x.write(0) + x.get(0, 0, 4) + x.get(0, 0, 5);
+            case 18: return x.count(1);
+            case 19: return x.count(2);
+            case 20: return x.count(4);
+            case 21: return x.count(6);
+            case 22: return x.count(7);
+            default: return x.digest();
+        }
     }
 
     private static void findings() {

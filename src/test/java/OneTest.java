@@ -75,6 +75,11 @@ public final class OneTest {
         form("", "lex", "y4", "y-z9z", "z9z6");
         form("0", "lex", "y3z", "y-z9z", "z9z6");
         form("", "lex", "x9x6", "x-y-z-1");
+        // the same of y and of x: 8 times y2 and y15, 6 times x4 and x7
+        form("y31", "lex", "x8y9y6", "x-y2");
+        form("", "lex", "x9y9y6", "x-y2");
+        form("x31", "deg", "x7y9y6z9z6", "y5-x4", "z5-x4");
+        form("", "deg", "x8y9y6z9z6", "y5-x4", "z5-x4");
     }
 
     /** (y+z+1) by 1 to 15 has 3, 6, 10, 15, 21, 28, 36 .. TERMS; on the way there may be more. */

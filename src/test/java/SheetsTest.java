@@ -51,6 +51,7 @@ public final class SheetsTest {
             Check.due("LOST", x.lose(s), -11);
             x.sheet(s, 1, 5 + s);
             Check.due("lose", x.lose(s), 5 + s);
+            Check.due("write to LOST", x.write(s), -11);
             Check.due("LOST again", x.lose(s), -11);
             x.sheet(s, 1, 0);
             Check.due("lose none", x.lose(s), 0);
@@ -127,6 +128,9 @@ public final class SheetsTest {
         Check.due("copy", x.copy(0, 1, 1, 3, 3), 1);
         int[] due = {0, 0, 0, 11, 12, 13};
         for (int i = 0; i < 6; i++) Check.due("copied " + i, x.get(1, 0, i), due[i]);
+        x.sheet(2, 0, 4);
+        Check.due("all of it", x.copy(0, 0, 2, 0, 4), 1);
+        for (int i = 0; i < 4; i++) Check.due("copied " + i, x.get(2, 0, i), 10 + i);
         x.put(0, 0, 1, 99);
         Check.due("a copy is its own", x.get(1, 0, 3), 11);
     }

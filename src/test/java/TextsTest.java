@@ -1,3 +1,6 @@
+import java.util.ArrayList;
+import java.util.List;
+
 /** Promises 1 to 8: a new object and its texts. */
 public final class TextsTest {
     private static final int[] NO_TEXT = {-1, 8, 9, -2, Integer.MIN_VALUE, Integer.MAX_VALUE};
@@ -9,6 +12,7 @@ public final class TextsTest {
         faults();
         names();
         ahead();
+        aheadNearTheEnds();
         terms();
         Check.end();
     }
@@ -61,6 +65,14 @@ public final class TextsTest {
         Check.due("wipe again", x.wipe(3), 0);
         Check.due("undo of none", x.undo(3), -3);
         Check.due("wiped is ZERO", x.term(3, 0, 0), -1);
+        Check.text(x, 7, "lex");
+        Check.due("order", x.order(), 0);
+        x.undo(7);
+        Check.due("order of less", x.order(), 1);
+        x.type(7, 'x');
+        Check.due("order again", x.order(), 0);
+        x.wipe(7);
+        Check.due("order of none", x.order(), 1);
         Check.text(x, 3, "y");
         Check.due("typed anew", x.term(3, 0, 1), 32);
     }
@@ -134,7 +146,25 @@ public final class TextsTest {
         ahead("y31 over z31", Check.product(0, 31, 0), Check.product(0, 0, 31), 1, 1, 1);
         ahead("x y31 over x y30 z31", Check.product(1, 31, 0), Check.product(1, 30, 31), 1, 0, 0);
         ahead("x31y31z30 over x31y30z31", Check.product(31, 31, 30), Check.product(31, 30, 31), 1, 1, 1);
+        ahead("y31 over x30z", Check.product(0, 31, 0), Check.product(30, 0, 1), 0, 0, 1);
         ahead("x31z31 over x30y31z", Check.product(31, 0, 31), Check.product(30, 31, 1), 1, 1, 0);
+    }
+
+    /** All PRODUCTS whose EXPONENTS are near the ends, beside the Model. */
+    private static void aheadNearTheEnds() {
+        int[] some = {0, 1, 2, 15, 29, 30, 31};
+        String[] orders = {"lex", "deg", "rev"};
+        for (int o = 0; o < 3; o++) {
+            JanetCones x = Check.with(orders[o], "");
+            var due = Model.byOrder(o);
+            List<List<Integer>> all = new ArrayList<>();
+            for (int a : some) for (int b : some) for (int c : some) all.add(List.of(a, b, c));
+            for (List<Integer> a : all) {
+                for (List<Integer> b : all) {
+                    Check.due(orders[o] + a + b, x.ahead(Model.coded(a), Model.coded(b)), due.compare(a, b) < 0 ? 1 : 0);
+                }
+            }
+        }
     }
 
     private static void ahead(String what, int a, int b, int lex, int deg, int rev) {
@@ -178,6 +208,8 @@ public final class TextsTest {
         terms("deg", "xyzxyz+x2y2z2", 2, Check.product(2, 2, 2));
         terms("deg", "x9x6y9y6z9z6", 1, Check.product(15, 15, 15));
         terms("lex", "x+");
+        terms("lex", "1+z+z2+z3+y+yz+y2+x+xz+xy+x2", 1, 2048, 1, 1056, 1, 1025, 1, 1024, 1, 64, 1, 33, 1, 32, 1, 3, 1, 2, 1, 1, 1, 0);
+        terms("lex", "x2+xy+xz+x+y2+y-y2-xy-x2-y-x-y", 1, 1025, 30, 32);
         terms("lex", "1+x+y+z+xy+xz+yz+x2+y2+z2+xy", 1, 2048, 2, 1056, 1, 1025, 1, 1024, 1, 64, 1, 33, 1, 32, 1, 2, 1, 1, 1, 0);
     }
 }
