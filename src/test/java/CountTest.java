@@ -78,7 +78,7 @@ public final class CountTest {
             case 3: return x.term(0, 0, 1);
             case 4: return x.why(1);
             case 5: return x.basis(0, 0, 1);
-            case 6: return x.size(0);
+            case 6: return x.size(0) + 7 * x.size(1) + 49 * x.size(2) + 343 * x.size(3) + 2401 * x.size(4) + 16807 * x.size(5);
             case 7: return x.good(0);
             case 8: return x.cone(96);
             case 9: return x.outside(5);
