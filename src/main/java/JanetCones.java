@@ -19,6 +19,7 @@ public final class JanetCones {
     private static final int TEXTS = 8;
     private static final int MOST_BYTES = 30;
     private static final int NAME_BYTES = 3;
+    private static final int BYTE_VALUES = 256;
 
     private static final int LEX = 0;
     private static final int DEG = 1;
@@ -93,7 +94,7 @@ public final class JanetCones {
     // ---- texts
 
     public int type(int text, int b) {
-        if (!isBelow(text, TEXTS) || !isBelow(b, 256)) return BAD;
+        if (!isBelow(text, TEXTS) || !isBelow(b, BYTE_VALUES)) return BAD;
         if (!texts[text].append(b)) return FULL;
         forget(text);
         return texts[text].length;
@@ -282,7 +283,8 @@ public final class JanetCones {
         Sheet from = sheets[s];
         if (from.isLost()) return finding(NULL_FOUND);
         int n = 0;
-        while (n < from.length && texts[text].append(from.items[n] & 255)) n++;
+        // An item that type() would refuse may not come, and so nothing behind it.
+        while (n < from.length && isBelow(from.items[n], BYTE_VALUES) && texts[text].append(from.items[n])) n++;
         forget(text);
         return n;
     }

@@ -12,6 +12,7 @@ public final class SheetsTest {
         overlapping();
         written();
         read();
+        readOnlyBytes();
         Check.end();
     }
 
@@ -215,15 +216,73 @@ public final class SheetsTest {
         Check.due("of 60 items", x.read(0, 1), 30);
         x.sheet(1, 2, 0);
         Check.due("of none", x.read(1, 1), 0);
-        x.sheet(2, 2, 3);
-        x.put(2, 2, 0, 'l');
-        x.put(2, 2, 1, 'e');
-        x.put(2, 2, 2, 'x' - 256);
-        Check.due("lex", x.read(7, 2), 3);
-        Check.due("the lowest eight bits are the byte", x.order(), 0);
-        x.sheet(3, 0, 1);
-        x.put(3, 0, 0, 255);
-        Check.due("byte 255", x.read(2, 3), 1);
-        Check.due("byte 255", x.fault(2), 0);
+    }
+
+    private static void readOnlyBytes() {
+        int[][] noBytes = {{-1, -128, 128, 255}, {-1, -256, -136, 256, 'x' + 256, 32767, -32768},
+            {-1, 256, 'x' - 256, 'x' + 256, 65536, Integer.MAX_VALUE, Integer.MIN_VALUE}};
+        for (int f = 0; f < 3; f++) {
+            for (int v : noBytes[f]) {
+                for (int at = 0; at < 4; at++) readUpTo(f, v, at);
+            }
+        }
+        for (int f = 1; f < 3; f++) {
+            for (int v : new int[] {0, 127, 128, 136, 254, 255}) readWhole(f, v);
+        }
+        for (int v : new int[] {0, 1, 127}) readWhole(0, v);
+        readUpToFull();
+        readWhatWasWritten();
+    }
+
+    /** Of x3yz with an item that is no byte in place of one, those ahead of it come, and none behind it. */
+    private static void readUpTo(int form, int noByte, int at) {
+        JanetCones x = new JanetCones();
+        String bytes = "x3yz";
+        x.sheet(1, form, 4);
+        for (int i = 0; i < 4; i++) x.put(1, form, i, i == at ? noByte : bytes.charAt(i));
+        String call = "FORM " + form + ", " + noByte + " at " + at;
+        Check.text(x, 2, "y-");
+        Check.due(call, x.read(2, 1), at);
+        Check.due(call + ": bytes", x.count(0), 2 + at);
+        Check.due(call + ": FAULT", x.fault(2), at == 0 ? 2 : -1);
+        int[] due = {-1, Check.product(1, 0, 0), Check.product(3, 0, 0), Check.product(3, 1, 0)};
+        Check.due(call + ": HEAD", x.term(2, 0, 1), due[at]);
+        Check.due(call + ": as the first time", x.read(2, 1), at);
+        Check.due(call + ": no FINDING", x.count(8), 0);
+        Check.due(call + ": the item stays", x.get(1, form, at), form == 0 ? (byte) noByte : form == 1 ? (short) noByte : noByte);
+    }
+
+    private static void readWhole(int form, int aByte) {
+        JanetCones x = new JanetCones();
+        x.sheet(0, form, 2);
+        x.put(0, form, 0, 'z');
+        x.put(0, form, 1, aByte);
+        Check.due("FORM " + form + ", byte " + aByte, x.read(3, 0), 2);
+        Check.due("FORM " + form + ", byte " + aByte, x.fault(3), 1);
+        Check.due("FORM " + form + ", byte " + aByte, x.count(0), 2);
+    }
+
+    private static void readUpToFull() {
+        JanetCones x = new JanetCones();
+        x.sheet(0, 2, 4);
+        for (int i = 0; i < 3; i++) x.put(0, 2, i, "lex".charAt(i));
+        x.put(0, 2, 3, -1);
+        Check.due("no place for the one that is no byte", x.read(7, 0), 3);
+        Check.due("lex", x.order(), 0);
+        x.put(0, 2, 2, 'x' - 256);
+        x.wipe(7);
+        Check.due("not by its lowest bits", x.read(7, 0), 2);
+        Check.due("le is not ended", x.fault(7), 2);
+        Check.due("deg", x.order(), 1);
+    }
+
+    private static void readWhatWasWritten() {
+        JanetCones x = new JanetCones();
+        x.sheet(3, 0, 16);
+        x.write(3);
+        Check.due("136 is no byte in a row of bytes", x.read(0, 3), 15);
+        x.sheet(3, 1, 31);
+        x.write(3);
+        Check.due("231 and 253 are, 276 is not, in a row of shorts", x.read(1, 3), 22);
     }
 }
