@@ -1,13 +1,24 @@
+import java.util.LinkedHashSet;
+import java.util.Set;
+
 /** What the tests share: counting answers that are not as due, and typing whole texts. */
 final class Check {
     private static int wrong = 0;
+    private static String sentence = "";
+    private static final Set<String> broken = new LinkedHashSet<>();
 
     private Check() {
+    }
+
+    /** The sentence of the document that is looked at from here on. */
+    static void sentence(String words) {
+        sentence = words;
     }
 
     static void due(String call, long got, long want) {
         if (got == want) return;
         wrong++;
+        if (!sentence.isEmpty()) broken.add(sentence);
         if (wrong <= 50) System.out.println(call + " answered " + got + ", due is " + want);
     }
 
@@ -19,6 +30,7 @@ final class Check {
     static void end() {
         if (wrong == 0) return;
         System.out.println(wrong + " answers are not as due");
+        for (String words : broken) System.out.println("does not hold: " + words);
         System.exit(1);
     }
 
@@ -35,6 +47,11 @@ final class Check {
         text(x, 6, one);
         for (int g = 0; g < generators.length; g++) text(x, g, generators[g]);
         return x;
+    }
+
+    /** Type the same byte often. */
+    static void many(JanetCones x, int text, int b, int times) {
+        for (int i = 0; i < times; i++) x.type(text, b);
     }
 
     static int product(int a, int b, int c) {

@@ -128,7 +128,7 @@ public final class CountTest {
     }
 
     /** All that the promise names, in its order. */
-    private static long digest(JanetCones x) {
+    static long digest(JanetCones x) {
         List<Long> all = new ArrayList<>();
         for (int w = 0; w <= 7; w++) all.add((long) x.count(w));
         for (int t = 0; t <= 7; t++) all.add((long) x.fault(t));
