@@ -171,15 +171,21 @@ public final class BasisEdgesTest {
         basis(why("lex", 0, 4, 2, "xy-1", "y2-1"), "y2+30", "x+30y");
         // y2 times x becomes y, by which y2 and xy-1 go back; xy-1 comes again, by which xy, of y, becomes 1
         basis(why("deg", 0, 12, 1, "xy-1", "x2", "y2"), "1");
+        // y5 is taken ahead of y5-4, which came back behind it
+        basis(why("lex", 0, 6, 1, "y5-4", "y5+5y3", "y5"), "1");
         // one like the HEAD is no other multiple: x-1 stays where x+y is taken, which becomes y+1
         basis(why("lex", 0, 3, 2, "x-1", "x+y"), "x+30", "y+1");
     }
 
     private static void notGoodLettersAreSent() {
-        Check.sentence("Then of each of THE BASIS, in their order, times x, y, z that are not GOOD letters of it come to THE PILE");
+        Check.sentence("Then of each of THE BASIS, in their order, times x, y, z that are not GOOD letters of it come to "
+            + "THE PILE");
         // z times x and y, y times x: three STEPS more
         basis(why("deg", 0, 6, 3, "x", "y", "z"), "z", "y", "x");
         basis(why("deg", 0, 4, 3, "x2", "y2"), "y2", "x2", "xy2");
+        // yz+z2 times y comes behind y2z+z, which came back in the same STEP
+        basis(why("lex", 0, 7, 4, "z+y5", "z-y3"), "y3+30z", "yz+z2", "y2z+z", "z3+z");
+        why("lex", 2, 6, 0, "y7+y9y2", "y3+z5");
         // times x, again and again
         why("deg", 0, 5, 4, "y2", "x3");
         why("deg", 0, 17, 16, "y2", "x9x6");
@@ -190,6 +196,9 @@ public final class BasisEdgesTest {
         // y is sent times x when x3 comes, not again when xy, x2y come
         why("deg", 0, 5, 4, "y", "x3");
         basis(why("deg", 0, 9, 5, "z", "y", "x2"), "z", "y", "x2", "xz", "xy");
+        // xy-y goes back by y, and comes again as xy, which is sent times x once more
+        basis(why("lex", 0, 6, 3, "x2", "yx-y"), "x2", "y", "xy");
+        why("lex", 0, 9, 4, "xz", "x3+8");
         why("deg", 0, 25, 24, "z", "y9x9x5");
     }
 
@@ -215,7 +224,11 @@ public final class BasisEdgesTest {
         why("lex", 0, 120, 6, "z3", "x2y2-3y", "y3-z");
         why("rev", 0, 120, 5, "z3-yx", "x3z-x", "zy3");
         why("deg", 0, 120, 1, "x9y9z9z2", "yz4x7+7");
-        // 120 STEPS, and something is
+        // 120 STEPS, and just one is left
+        why("lex", 1, 120, 0, "z9", "x9x3z-x5");
+        why("lex", 1, 120, 0, "y4-zy9", "z9z4");
+        why("rev", 1, 120, 0, "zy8x+z3+6y", "z9");
+        // and many are
         why("deg", 1, 120, 0, "z9z2", "z2x8-z");
         why("rev", 1, 120, 0, "x4z", "y5x+6");
         why("deg", 1, 120, 0, "y5x8", "xz4-3");
@@ -257,7 +270,7 @@ public final class BasisEdgesTest {
     }
 
     private static void wideByALetter() {
-        Check.sentence("2 WIDE: a POLYNOMIAL .. would have .. an EXPONENT above 31, times a letter that is not GOOD");
+        Check.sentence("2 WIDE: a POLYNOMIAL .. would have .. or it .. an EXPONENT above 31 (here by a letter that is not GOOD)");
         why("lex", 2, 22, 0, "x4+y7", "z+x5");
         why("lex", 2, 7, 0, "x5-z", "x8y9y+x9");
         why("lex", 2, 9, 0, "zx9-z7", "y9+x4");
@@ -281,6 +294,8 @@ public final class BasisEdgesTest {
         why("deg", 1, 120, 0, "x3+9x4y4+6y2x", "y6+z4y6", "z2y6+4", "z3+x3z2-4y6+z4");
         // 101, by multiples that come back and by letters that are not GOOD
         why("lex", 3, 68, 0, "xz6-z", "x9xy8");
+        why("rev", 3, 67, 0, "x4-x2-y3z3", "y2-x4", "x2-z4-3", "z2+y4x3");
+        why("rev", 3, 86, 0, "y4z-9", "xy6-x6-8y6-8z8", "z6-x6", "z8-z3x8");
         why("lex", 3, 66, 0, "z5x-5", "x9y9y2");
         why("lex", 3, 67, 0, "x+9z8x3", "x9xz7y9y5");
     }

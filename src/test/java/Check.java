@@ -54,6 +54,16 @@ final class Check {
         for (int i = 0; i < times; i++) x.type(text, b);
     }
 
+    /** So many times x, with a sign ahead of each TERM but perhaps the first. */
+    static String times(int n, char sign) {
+        StringBuilder all = new StringBuilder();
+        for (int left = n; left > 0; left -= 9) {
+            if (sign == '-' || all.length() > 0) all.append(sign);
+            all.append(Math.min(9, left)).append('x');
+        }
+        return all.toString();
+    }
+
     static int product(int a, int b, int c) {
         return 1024 * a + 32 * b + c;
     }

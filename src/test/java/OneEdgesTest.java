@@ -123,6 +123,7 @@ public final class OneEdgesTest {
         shown("x+1", "", "x+1");
         shown("2", "", "2");
         shown("30", "", "-1");
+        for (int n = 2; n <= 30; n++) shown(n + "x", "", Check.times(n, '+'));
     }
 
     private static void exponentShown() {
@@ -132,7 +133,11 @@ public final class OneEdgesTest {
         shown("xy9z10", "", "z9zy9x");
         shown("x15y15z15", "", "x9x6y9y6z9z6");
         shown("z2", "", "z2");
-        Check.same("31", Check.shown(Check.with("lex", "y3z", "y-z9z"), -1), "z31");
+        // y is z10
+        for (int e = 2; e <= 31; e++) {
+            String one = "y".repeat(e / 10) + "z".repeat(e % 10);
+            Check.same("EXPONENT " + e, Check.shown(Check.with("lex", one, "y-z9z"), -1), "z" + e);
+        }
     }
 
     private static void zeroShown() {
@@ -149,7 +154,8 @@ public final class OneEdgesTest {
     // ---- promises
 
     private static void formTold() {
-        Check.sentence("Promise 16: Of the NORMAL FORM of THE ONE the i-th TERM (0 to 29): the NUMBER (what = 0), the PRODUCT (1)");
+        Check.sentence("Promise 16: Of the NORMAL FORM of THE ONE the i-th TERM (0 to 29): the NUMBER (what = 0), "
+            + "the PRODUCT (1)");
         // x6 becomes 28 TERMS, and two more there are
         JanetCones x = Check.with("lex", "x6+y7+2z7", "x-y-z-1");
         Check.due("the first", x.form(0, 0), 1);
@@ -200,6 +206,8 @@ public final class OneEdgesTest {
         Check.due("30 TERMS", Check.with("lex", "x6+y7+z7", "x-y-z-1").form(29, 0), 1);
         wide("x6+y7+z7+y8", "x-y-z-1");
         wide("x7", "x-y-z-1");
+        // 38 TERMS: 9 stay, and 29 of the 30 of another one come
+        wide("x2z8+xz+y2+yz+z2+x+y+z5+z+1", "x3+y3x3z4", "y2-z3y4+3z4-1+y3x2");
         // more than 30 TERMS on its way, 4 in the end
         notWide("30yz+6y+6z+1", "lex", "x6", "x-y-z-1", "y2", "z2");
         wide("x7", "x-y-z-1", "y2", "z2");
@@ -244,13 +252,20 @@ public final class OneEdgesTest {
             Check.due("two alike", x.spare(), 63);
         }
         Check.due("a new one", new JanetCones().spare(), 63);
+        JanetCones x = Check.with("", "", "x");
+        Check.due("of x", x.spare(), 62);
+        Check.text(x, 1, "y");
+        Check.due("then of x, y", x.spare(), 60);
+        Check.text(x, 1, "y-y");
+        Check.due("then of x, ZERO", x.spare(), 62);
         // its NORMAL FORM by the others would be WIDE
         spare(60, "lex", "y-z9z", "y4-y4z");
         Check.due("THE ONE has no part in it", Check.with("", "x", "x", "y").spare(), 60);
     }
 
     private static void byTold() {
-        Check.sentence("Promise 19: By another ORDER (0 to 2), in place of what is told: WHY (what = 0), STEPS (1), how many (2)");
+        Check.sentence("Promise 19: By another ORDER (0 to 2), in place of what is told: WHY (what = 0), STEPS (1), "
+            + "how many are in THE BASIS (2)");
         int[][] due = {{2, 6, 0, -1}, {0, 5, 3, 33}, {0, 5, 3, 33}};
         for (String told : new String[] {"lex", "deg", "rev", "", "le"}) {
             JanetCones x = Check.with(told, "", "-z+1xzz-1zzy+9", "xz+5zxx+6zz+zz");

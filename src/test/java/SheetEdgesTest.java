@@ -1,5 +1,6 @@
 import java.math.BigInteger;
 import java.util.ArrayList;
+import java.util.Arrays;
 import java.util.List;
 import java.util.function.ToIntFunction;
 
@@ -50,6 +51,7 @@ public final class SheetEdgesTest {
         countLatest();
         countBad();
         digestOfAll();
+        digestOfCones();
         digestWraps();
         Check.end();
     }
@@ -562,8 +564,8 @@ public final class SheetEdgesTest {
             {0, 0, LEAST}, {-1, -1, 1}};
         int[][] notSoMany = {{0, 0, 3}, {3, 0, 2}, {4, 0, 1}, {5, 0, 0}, {0, 1, 2}, {0, 2, 1}, {0, 3, 0}, {0, 0, MOST},
             {MOST, 0, 1}, {0, MOST, 1}, {1, 1, MOST}, {MOST, MOST, MOST}};
-        for (int[] c : below) Check.due("below 0: " + c[0] + " " + c[1] + " " + c[2], x.copy(0, c[0], 1, c[1], c[2]), -12);
-        for (int[] c : notSoMany) Check.due("not so many: " + c[0] + " " + c[1] + " " + c[2], x.copy(0, c[0], 1, c[1], c[2]), -12);
+        for (int[] c : below) Check.due("below 0 " + Arrays.toString(c), x.copy(0, c[0], 1, c[1], c[2]), -12);
+        for (int[] c : notSoMany) Check.due("not so many " + Arrays.toString(c), x.copy(0, c[0], 1, c[1], c[2]), -12);
         items(x, 1, 2, 5, 6);
         Check.due("just so many", x.copy(0, 2, 1, 0, 2), 1);
         items(x, 1, 2, 3, 4);
@@ -762,6 +764,16 @@ public final class SheetEdgesTest {
             x.sheet(0, 0, -1);
             Check.due("count 8 has no part in it", x.digest(), before);
             Check.due("nor it in count 8", latest, 0);
+        }
+    }
+
+    private static void digestOfCones() {
+        Check.sentence("Promise 29: of PRODUCTS 0, 37, 1024, 2113, 5218 cone()");
+        for (String letter : new String[] {"x", "y", "z"}) {
+            for (int e = 1; e <= 9; e++) {
+                JanetCones x = Check.with("", "", letter + (e > 1 ? e : ""));
+                Check.due("digest", x.digest(), CountTest.digest(x));
+            }
         }
     }
 

@@ -1,3 +1,4 @@
+import java.util.Arrays;
 import java.util.function.BiPredicate;
 
 /** Each sentence that names an edge, of NUMBERS, texts and ORDERS in "Terms" and of promises 1 to 8, by itself. */
@@ -15,6 +16,7 @@ public final class TextEdgesTest {
         inverses();
         noProductTwice();
         zero();
+        generatorsAndTheOne();
         mostBytes();
         signs();
         figures();
@@ -71,30 +73,20 @@ public final class TextEdgesTest {
         Check.due("call 512", x.why(2), 3);
     }
 
-    /** So many times x, with a sign ahead of each TERM but perhaps the first. */
-    private static String times(int n, char sign) {
-        StringBuilder all = new StringBuilder();
-        for (int left = n; left > 0; left -= 9) {
-            if (sign == '-' || all.length() > 0) all.append(sign);
-            all.append(Math.min(9, left)).append('x');
-        }
-        return all.toString();
-    }
-
     private static void numbersAdded() {
         Check.sentence("NUMBERS are 0 to 30; they are added .. modulo 31");
         for (int n = 1; n <= 90; n++) {
-            JanetCones x = Check.with("", times(n, '+'));
-            Check.due(times(n, '+'), x.term(6, 0, 0), n % 31 == 0 ? -1 : n % 31);
-            Check.due(times(n, '+'), x.count(2), n % 31 == 0 ? 0 : 1);
+            JanetCones x = Check.with("", Check.times(n, '+'));
+            Check.due(Check.times(n, '+'), x.term(6, 0, 0), n % 31 == 0 ? -1 : n % 31);
+            Check.due(Check.times(n, '+'), x.count(2), n % 31 == 0 ? 0 : 1);
         }
     }
 
     private static void numbersTakenAway() {
         Check.sentence("NUMBERS are .. taken away .. modulo 31");
         for (int n = 1; n <= 90; n++) {
-            JanetCones x = Check.with("", times(n, '-'));
-            Check.due(times(n, '-'), x.term(6, 0, 0), n % 31 == 0 ? -1 : 31 - n % 31);
+            JanetCones x = Check.with("", Check.times(n, '-'));
+            Check.due(Check.times(n, '-'), x.term(6, 0, 0), n % 31 == 0 ? -1 : 31 - n % 31);
         }
         for (int a = 1; a <= 9; a++) {
             for (int b = 1; b <= 9; b++) {
@@ -108,9 +100,9 @@ public final class TextEdgesTest {
         Check.sentence("NUMBERS are .. multiplied modulo 31");
         for (int a = 1; a <= 30; a++) {
             for (int b = 1; b <= 9; b++) {
-                JanetCones x = Check.with("lex", times(a, '+'), "x-" + b + "y");
+                JanetCones x = Check.with("lex", Check.times(a, '+'), "x-" + b + "y");
                 Check.due(a + " times " + b, x.form(0, 0), a * b % 31);
-                x = Check.with("lex", times(a, '+'), "x+" + b + "y");
+                x = Check.with("lex", Check.times(a, '+'), "x+" + b + "y");
                 Check.due(a + " times -" + b, x.form(0, 0), 31 - a * b % 31);
             }
         }
@@ -119,7 +111,7 @@ public final class TextEdgesTest {
     private static void inverses() {
         Check.sentence("(every one but 0 has its inverse)");
         for (int n = 1; n <= 30; n++) {
-            JanetCones x = Check.with("lex", "", times(n, '+') + "+y");
+            JanetCones x = Check.with("lex", "", Check.times(n, '+') + "+y");
             Check.due("MONIC", x.basis(0, 0, 0), 1);
             Check.due("inverse of " + n, x.basis(0, 1, 0) * n % 31, 1);
         }
@@ -143,6 +135,17 @@ public final class TextEdgesTest {
             Check.due("TERMS of '" + none + "'", x.count(2), 0);
             Check.due("GENERATORS '" + none + "'", x.count(1), 0);
             Check.due("'" + none + "' is well", x.fault(0), -1);
+        }
+    }
+
+    private static void generatorsAndTheOne() {
+        Check.sentence("Texts 0 to 5 (GENERATORS) and 6 (THE ONE)");
+        for (int t = 0; t < 8; t++) {
+            JanetCones x = new JanetCones();
+            Check.text(x, t, "x2");
+            Check.due("GENERATORS by text " + t, x.count(1), t < 6 ? 1 : 0);
+            Check.due("THE BASIS by text " + t, x.why(2), t < 6 ? 1 : 0);
+            Check.due("THE ONE by text " + t, x.count(2), t == 6 ? 1 : 0);
         }
     }
 
@@ -365,12 +368,12 @@ public final class TextEdgesTest {
     }
 
     private static void everyPair(int order, BiPredicate<int[], int[]> ahead) {
-        int[] some = {0, 1, 30, 31};
+        int[] some = {0, 1, 15, 16, 30, 31};
         JanetCones x = Check.with(ORDERS[order], "");
-        for (int i = 0; i < 64; i++) {
-            for (int j = 0; j < 64; j++) {
-                int[] a = {some[i / 16], some[i / 4 % 4], some[i % 4]};
-                int[] b = {some[j / 16], some[j / 4 % 4], some[j % 4]};
+        for (int i = 0; i < 216; i++) {
+            for (int j = 0; j < 216; j++) {
+                int[] a = {some[i / 36], some[i / 6 % 6], some[i % 6]};
+                int[] b = {some[j / 36], some[j / 6 % 6], some[j % 6]};
                 int got = x.ahead(Check.product(a[0], a[1], a[2]), Check.product(b[0], b[1], b[2]));
                 Check.due(ORDERS[order] + " " + i + " " + j, got, ahead.test(a, b) ? 1 : 0);
             }
@@ -494,6 +497,12 @@ public final class TextEdgesTest {
         JanetCones x = Check.with("", "x9x7");
         Check.due("x9x", x.undo(6), 3);
         Check.due("x9x", x.term(6, 0, 1), 10240);
+        x = Check.with("lex", "");
+        Check.due("le", x.undo(7), 2);
+        Check.due("le is no NAME", x.order(), 1);
+        Check.due("le is not ended", x.fault(7), 2);
+        Check.due("l", x.undo(7), 1);
+        Check.due("l is not ended", x.fault(7), 1);
     }
 
     private static void undoNot() {
@@ -548,17 +557,26 @@ public final class TextEdgesTest {
 
     private static void termsTold() {
         Check.sentence("Promise 8: Of text 0 to 6 the i-th TERM as PRODUCTS are AHEAD (0 to 29)");
-        // one TERM for each two bytes is the most there can be
-        String most = "1+x+y+z+2+x+3+y+4+z+5+x+6+y+7";
+        // no text has more TERMS than eleven, which are unlike, or fifteen, of which some are alike
+        terms("1+x+y+z+2+x+3+y+4+z+5+x+6+y+7", 3, 1024, 3, 32, 2, 1, 28, 0);
+        int[] due = {1, 2048, 1, 1056, 1, 1025, 1, 64, 1, 33, 1, 2, 2, 1024, 2, 32, 1, 1, 1, 0};
+        terms("1+z+y+x+z2+yz+y2+xz+xy+x2+y+x", due);
+        terms("x+y+x2+xy+xz+y2+yz+z2+x+y+z+1", due);
+        int[] eleven = {1, 3072, 1, 2048, 1, 1056, 1, 1025, 1, 64, 1, 33, 1, 2, 1, 1024, 1, 32, 1, 1, 1, 0};
+        terms("1+z+y+x+z2+yz+y2+xz+xy+x2+x3", eleven);
+        terms("x3+x2+xy+xz+y2+yz+z2+x+y+z+1", eleven);
+        terms("x3+x2+xy+xz+y2+yz+z2+x+y+z+1-1", Arrays.copyOf(eleven, 20));
+        terms("1+z+y+x+z2+yz+y2+xz+xy+x3-1", 1, 3072, 1, 1056, 1, 1025, 1, 64, 1, 33, 1, 2, 1, 1024, 1, 32, 1, 1);
+    }
+
+    private static void terms(String text, int... due) {
         for (int t = 0; t < 7; t++) {
             JanetCones x = new JanetCones();
-            Check.text(x, t, most);
-            int[] due = {3, 1024, 3, 32, 2, 1, 28, 0};
-            for (int i = 0; i < 4; i++) {
-                Check.due("NUMBER " + i, x.term(t, i, 0), due[2 * i]);
-                Check.due("PRODUCT " + i, x.term(t, i, 1), due[2 * i + 1]);
+            Check.text(x, t, text);
+            for (int i = 0; i < 30; i++) {
+                Check.due("NUMBER " + i, x.term(t, i, 0), 2 * i < due.length ? due[2 * i] : -1);
+                Check.due("PRODUCT " + i, x.term(t, i, 1), 2 * i < due.length ? due[2 * i + 1] : -1);
             }
-            for (int i = 4; i < 30; i++) Check.due("none " + i, x.term(t, i, i % 2), -1);
         }
     }
 
