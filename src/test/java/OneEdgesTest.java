@@ -4,7 +4,6 @@ public final class OneEdgesTest {
     private static final int MOST = Integer.MAX_VALUE;
     private static final String[] ORDERS = {"lex", "deg", "rev"};
     private static final String[] NO_BASIS = {"x-y4", "x8"};
-    private static final String LONG_ONE = "8x9x3y9y2z9z5+8x9x3y9y5z9z5";
 
     public static void main(String[] args) {
         outsideOfAllCones();
@@ -330,15 +329,21 @@ public final class OneEdgesTest {
 
     private static void shownLongest() {
         Check.sentence("Promise 20: the j-th (0 to 299; NONE)");
-        JanetCones x = Check.with("rev", LONG_ONE, "3-7x+y2-z3");
+        longShown(323, "rev", "8x9x3y9y2z9z5+8x9x3y9y5z9z5", "3-7x+y2-z3");
+        // the longest there can be: 30 TERMS, each with two figures for the NUMBER and for each EXPONENT
+        longShown(359, "lex", "3x9x5y9y4z9z3+3x9x5y9y5z9z5", "x9x2-6x9xz3+x9xy2-4x9xz-7x9xy2");
+    }
+
+    private static void longShown(int bytes, String order, String one, String generator) {
+        JanetCones x = Check.with(order, one, generator);
         Model m = new Model();
-        m.texts[0] = "3-7x+y2-z3";
-        m.texts[6] = LONG_ONE;
-        m.texts[7] = "rev";
-        m.complete(2, -1);
-        String due = Model.shown(m.form(6, 2));
-        Check.due("how many", x.shown(-1, -1), 323);
-        Check.due("how many of the Model", due.length(), 323);
+        m.texts[0] = generator;
+        m.texts[6] = one;
+        m.texts[7] = order;
+        m.complete(m.order(), -1);
+        String due = Model.shown(m.form(6, m.order()));
+        Check.due("how many", x.shown(-1, -1), bytes);
+        Check.due("how many of the Model", due.length(), bytes);
         for (int j : new int[] {0, 1, 298, 299}) Check.due("byte " + j, x.shown(-1, j), due.charAt(j));
         Check.due("the 300th cannot be asked", x.shown(-1, 300), -2);
     }
